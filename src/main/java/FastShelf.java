@@ -23,6 +23,7 @@ public final class FastShelf {
 
     private static final int MEAN = 0;
     private static final int WORST = 1;
+    private static final int KINDS = 2;
 
     private static final int BEST = 0;
     private static final int STILL = 1;
@@ -279,7 +280,7 @@ public final class FastShelf {
         /** Counts what could change a COST, so that what has been found can be kept until then. */
         int changes;
         final int[] settings = {16, 10, 1, 2};
-        final int[][] times = new int[2][MOST_PARTS];
+        final int[][] times = new int[KINDS][MOST_PARTS];
         final int[] sizes = new int[MOST_THINGS];
         final int[][] reads = new int[MOST_THINGS][MOST_PARTS];
         final int[][] writes = new int[MOST_THINGS][MOST_PARTS];
@@ -444,7 +445,7 @@ public final class FastShelf {
         private static final int NOT_KNOWN = -1;
         /** More than any COST, and far enough from the largest int that the work of a PART may be added. */
         private static final int FAR = 1000000000;
-        /** For each set the state in which its THINGS are in, not written; a set's number is added twice if written. */
+        /** For each set the state in which its THINGS are in; the number of those that were written is added to it. */
         private static final int[] STATE_OF = {
             0, 1, 3, 4, 9, 10, 12, 13, 27, 28, 30, 31, 36, 37, 39, 40,
             81, 82, 84, 85, 90, 91, 93, 94, 108, 109, 111, 112, 117, 118, 120, 121};
@@ -452,16 +453,28 @@ public final class FastShelf {
         private final Program program;
         private int changesSeen = NOT_KNOWN;
         private final int[] setOf = new int[STATES];
+        /** By THING: the states in which it is out, the lesser first. */
+        private final int[][] outStates = new int[MOST_THINGS][STATES / 3];
         private final int[] cellsOf = new int[SETS];
         /** By PART ahead of which, by state: the least that all PARTS from there on cost. */
         private final int[][] toGo = new int[MOST_PARTS + 1][STATES];
-        private final int[][] knownCost = new int[2][MOST_ROOM + 1];
-        private final int[][] knownRow = new int[2][MOST_PARTS];
-        private final int[] roomOfRow = new int[2];
+        private final int[][] knownCost = new int[KINDS][MOST_ROOM + 1];
+        private final int[][] knownRow = new int[KINDS][MOST_PARTS];
+        private final int[] roomOfRow = new int[KINDS];
 
         Finder(Program program) {
             this.program = program;
             for (int s = 0; s < STATES; s++) setOf[s] = setOf[s / 3] << 1 | (s % 3 == 0 ? 0 : 1);
+            for (int t = 0; t < MOST_THINGS; t++) listOutStates(t);
+        }
+
+        private void listOutStates(int t) {
+            int count = 0;
+            for (int s = 0; s < STATES; s++) {
+                if (holds(setOf[s], t)) continue;
+                outStates[t][count] = s;
+                count++;
+            }
         }
 
         int bestCost(int kind, int room) {
@@ -560,15 +573,16 @@ public final class FastShelf {
             int carry = program.carryOf(1 << t);
             boolean written = holds(program.written[p], t);
             int step = STATE_OF[1 << t];
-            for (int group = 0; group < states; group += 3 * step) {
-                for (int s = group; s < group + step; s++) {
-                    int out = row[s] + slow;
-                    int inWritten = row[s + 2 * step] + fast;
-                    int in = written ? inWritten + carry : row[s + step] + fast;
-                    row[s] = Math.min(out, in + carry);
-                    row[s + step] = Math.min(out, in);
-                    row[s + 2 * step] = Math.min(out, inWritten);
-                }
+            int[] outs = outStates[t];
+            int count = states / 3;
+            for (int i = 0; i < count; i++) {
+                int s = outs[i];
+                int out = row[s] + slow;
+                int inWritten = row[s + 2 * step] + fast;
+                int in = written ? inWritten + carry : row[s + step] + fast;
+                row[s] = Math.min(out, in + carry);
+                row[s + step] = Math.min(out, in);
+                row[s + 2 * step] = Math.min(out, inWritten);
             }
         }
 
@@ -627,7 +641,7 @@ public final class FastShelf {
             return NONE;
         }
 
-        /** Each first THING stands ahead of as many ORDERS as the others have, so whole blocks of ORDERS are skipped. */
+        /** Each first THING begins as many ORDERS as the others have among them: whole blocks of ORDERS are skipped. */
         private void readOrder(int order) {
             int left = order;
             int rest = program.countSets() - 1;

@@ -456,6 +456,22 @@ public final class PromisesTest {
         due("17 worst", kinds.bestSet(0, 0, 1), 1);
         due("17 still mean", kinds.bestSet(0, 1, 0), 0);
         due("17 still worst", kinds.bestSet(0, 1, 1), 1);
+        for (int set = 0; set < 32; set++) {
+            bestIsEachSet(set, 0);
+            bestIsEachSet(set, 1);
+        }
+    }
+
+    /** What is used first and last is kept in between, as being fetched again would cost more; no other is fetched. */
+    private static void bestIsEachSet(int set, int writes) {
+        FastShelf x = make(4, 1, 2, 3, 4, 5);
+        for (int t = 0; t < 5; t++) {
+            int reads = (set >> t & 1) * 9;
+            x.uses(t, 1, reads, reads == 0 ? 0 : writes);
+            x.uses(t, 3, reads, 0);
+        }
+        due("17 ahead of set " + set, x.bestSet(0, 0, 0), 0);
+        for (int p = 1; p < 4; p++) due("17 set " + set + " part " + p, x.bestSet(p, 0, 0), set);
     }
 
     private static void room() {
