@@ -88,12 +88,22 @@ public final class LanguageTest {
             rule("import of " + imports.group(1), Set.of("java.util.Arrays", "java.util.ArrayList", "java.util.List",
                 "java.util.Iterator").contains(imports.group(1)));
         }
+        makesNothing(code);
         int length = 0;
         for (String line : code.split("\n")) {
             boolean head = line.matches("\\s+[\\w\\[\\] ]+\\([^;]*\\) \\{");
             length = head && !line.matches("\\s+(if|for|while|switch|else|do)\\b.*") ? 1 : length + 1;
             boolean end = line.matches(" {4}(?: {4})?\\}");
             if (end) rule("a method of " + length + " lines", length <= 60);
+        }
+    }
+
+    /** All calls of a run live in one room: what is made is made with the object. */
+    private static void makesNothing(String code) {
+        String calls = code.replaceAll("(?s)public FastShelf\\(\\) \\{.*?\\n    \\}", "");
+        for (String line : calls.split("\n")) {
+            boolean makes = line.matches(".*\\bnew\\b.*|.*\\.clone\\(.*|.*\\bcopyOf.*");
+            rule("makes an object: " + line.strip(), !makes || line.matches("\\s+(private )?final [\\w\\[\\]]+ \\w+ = new .*"));
         }
     }
 }

@@ -2,10 +2,6 @@ import java.util.Random;
 
 /** Long runs of calls, the same each time, whose every answer is held against the plain model's. */
 public final class ModelTest {
-    private static final String[] NAMES = {"part", "runs", "cut", "thing", "uses", "size", "setting", "ofPart", "plan",
-        "take", "planned", "misfit", "cost", "carried", "best", "bestSet", "room", "drop", "place", "stuck", "order",
-        "reach", "ofTime", "time", "many"};
-    private static final int[] HOW_MANY = {2, 3, 0, 1, 4, 2, 2, 2, 2, 2, 1, 0, 1, 1, 3, 3, 2, 2, 3, 1, 0, 1, 3, 1, 1};
     private static final int CALLS = 512;
     private static int wrong = 0;
 
@@ -50,7 +46,7 @@ public final class ModelTest {
         else if (roll < 20) check(8, part(), pick(1 << model.things(), 0.03), 0, 0);
         else if (roll < 24) check(6, pick(4, 0.05), random.nextInt(24) - 1, 0, 0);
         else if (roll < 27) check(6, 0, pick(61, 0.03), 0, 0);
-        else any(random.nextInt(NAMES.length));
+        else any(random.nextInt(Calls.COUNT));
     }
 
     private void any(int which) {
@@ -110,45 +106,12 @@ public final class ModelTest {
 
     private void check(int which, int a, int b, int c, int d) {
         if (failed) return;
-        int got = ask(which, a, b, c, d);
+        int got = Calls.ask(shelf, which, a, b, c, d);
         int want = model.call(which, a, b, c, d);
-        int[] given = {a, b, c, d};
-        told.append(NAMES[which]).append('(');
-        for (int i = 0; i < HOW_MANY[which]; i++) told.append(i == 0 ? "" : ", ").append(given[i]);
-        told.append(") = ").append(got).append('\n');
+        told.append(Calls.text(which, a, b, c, d)).append(" = ").append(got).append('\n');
         if (got == want) return;
         failed = true;
         wrong++;
         System.out.println("a run of calls:\n" + told + "due is " + want);
-    }
-
-    private int ask(int which, int a, int b, int c, int d) {
-        switch (which) {
-            case 0: return shelf.part(a, b);
-            case 1: return shelf.runs(a, b, c);
-            case 2: return shelf.cut();
-            case 3: return shelf.thing(a);
-            case 4: return shelf.uses(a, b, c, d);
-            case 5: return shelf.size(a, b);
-            case 6: return shelf.setting(a, b);
-            case 7: return shelf.ofPart(a, b);
-            case 8: return shelf.plan(a, b);
-            case 9: return shelf.take(a, b);
-            case 10: return shelf.planned(a);
-            case 11: return shelf.misfit();
-            case 12: return shelf.cost(a);
-            case 13: return shelf.carried(a);
-            case 14: return shelf.best(a, b, c);
-            case 15: return shelf.bestSet(a, b, c);
-            case 16: return shelf.room(a, b);
-            case 17: return shelf.drop(a, b);
-            case 18: return shelf.place(a, b, c);
-            case 19: return shelf.stuck(a);
-            case 20: return shelf.order();
-            case 21: return shelf.reach(a);
-            case 22: return shelf.ofTime(a, b, c);
-            case 23: return shelf.time(a);
-            default: return shelf.many(a);
-        }
     }
 }

@@ -2,7 +2,6 @@
 public final class PromisesTest {
     private static final int UNKNOWN = -1, OUTSIDE = -2, STATE = -3, FULL = -4, NONE = -9;
     private static final int LOW = Integer.MIN_VALUE, HIGH = Integer.MAX_VALUE;
-    private static int wrong = 0;
 
     public static void main(String[] args) {
         constants();
@@ -32,25 +31,11 @@ public final class PromisesTest {
         ofTime();
         time();
         many();
-        System.out.println(wrong == 0 ? "all promises hold" : wrong + " answers are wrong");
-        if (wrong != 0) System.exit(1);
+        Check.end("all promises hold");
     }
 
     private static void due(String what, int got, int want) {
-        if (got == want) return;
-        wrong++;
-        System.out.println(what + " answered " + got + ", due is " + want);
-    }
-
-    private static FastShelf make(int parts, int... sizes) {
-        FastShelf x = new FastShelf();
-        for (int p = 0; p < parts; p++) x.part(1, 2);
-        for (int size : sizes) x.thing(size);
-        return x;
-    }
-
-    private static void tell(FastShelf x, int... sets) {
-        for (int p = 0; p < sets.length; p++) x.plan(p, sets[p]);
+        Check.due(what, got, want);
     }
 
     /**
@@ -112,7 +97,7 @@ public final class PromisesTest {
     }
 
     private static void newPartIsEmpty() {
-        FastShelf x = make(2, 3);
+        FastShelf x = Samples.make(2, 3);
         x.plan(1, 1);
         x.uses(0, 1, 4, 5);
         x.cut();
@@ -125,7 +110,7 @@ public final class PromisesTest {
     }
 
     private static void runs() {
-        FastShelf x = make(2, 4);
+        FastShelf x = Samples.make(2, 4);
         due("3 runs", x.runs(1, 5, 9), 1);
         due("3 RUNS", x.ofPart(1, 0), 5);
         due("3 WORST", x.ofPart(1, 1), 9);
@@ -163,7 +148,7 @@ public final class PromisesTest {
     }
 
     private static void thing() {
-        FastShelf x = make(1);
+        FastShelf x = Samples.make(1);
         for (int bad : new int[] {0, -1, 21, LOW, HIGH}) due("5 thing(" + bad + ")", x.thing(bad), OUTSIDE);
         due("5 least", x.thing(1), 0);
         due("5 most", x.thing(20), 1);
@@ -177,7 +162,7 @@ public final class PromisesTest {
     }
 
     private static void uses() {
-        FastShelf x = make(2, 3, 4);
+        FastShelf x = Samples.make(2, 3, 4);
         due("6 first", x.uses(1, 0, 2, 3), 0);
         due("6 what both were", x.uses(1, 0, 9, 9), 5);
         due("6 most", x.uses(1, 0, 0, 0), 18);
@@ -195,7 +180,7 @@ public final class PromisesTest {
     }
 
     private static void writtenNoMore() {
-        FastShelf x = make(1, 3);
+        FastShelf x = Samples.make(1, 3);
         x.plan(0, 1);
         x.uses(0, 0, 0, 1);
         due("6 written", x.carried(1), 1);
@@ -204,7 +189,7 @@ public final class PromisesTest {
     }
 
     private static void size() {
-        FastShelf x = make(1, 3, 4);
+        FastShelf x = Samples.make(1, 3, 4);
         due("7 what it was", x.size(0, 20), 3);
         due("7 what it was then", x.size(0, 1), 20);
         due("7 other", x.size(1, 5), 4);
@@ -256,7 +241,7 @@ public final class PromisesTest {
     }
 
     private static void ofPart() {
-        FastShelf x = make(1, 3, 4);
+        FastShelf x = Samples.make(1, 3, 4);
         x.runs(0, 7, 8);
         x.uses(0, 0, 1, 2);
         x.uses(1, 0, 3, 4);
@@ -269,7 +254,7 @@ public final class PromisesTest {
     }
 
     private static void plan() {
-        FastShelf x = make(2, 3, 4);
+        FastShelf x = Samples.make(2, 3, 4);
         due("10 nothing at first", x.plan(0, 3), 0);
         due("10 what it told", x.plan(0, 1), 3);
         due("10 other part", x.plan(1, 2), 0);
@@ -280,7 +265,7 @@ public final class PromisesTest {
         due("10 refused changes nothing", x.planned(0), 1);
         x.thing(5);
         due("10 a new thing", x.plan(0, 4), 1);
-        FastShelf bare = make(1);
+        FastShelf bare = Samples.make(1);
         due("10 no things, empty set", bare.plan(0, 0), 0);
         due("10 no things, a set", bare.plan(0, 1), OUTSIDE);
     }
@@ -317,7 +302,7 @@ public final class PromisesTest {
     }
 
     private static void firstOfEqual() {
-        FastShelf x = make(3, 2, 2);
+        FastShelf x = Samples.make(3, 2, 2);
         x.setting(3, 0);
         x.setting(0, 2);
         x.uses(0, 1, 3, 0);
@@ -334,7 +319,7 @@ public final class PromisesTest {
     }
 
     private static void planned() {
-        FastShelf x = make(2, 3);
+        FastShelf x = Samples.make(2, 3);
         due("12 nothing", x.planned(1), 0);
         x.plan(1, 1);
         due("12 told", x.planned(1), 1);
@@ -345,19 +330,19 @@ public final class PromisesTest {
 
     private static void misfit() {
         due("13 no parts", new FastShelf().misfit(), NONE);
-        FastShelf x = make(3, 10, 6, 1);
-        tell(x, 3, 7, 7);
+        FastShelf x = Samples.make(3, 10, 6, 1);
+        Samples.tell(x, 3, 7, 7);
         due("13 first of two", x.misfit(), 1);
-        tell(x, 3, 3, 7);
+        Samples.tell(x, 3, 3, 7);
         due("13 last", x.misfit(), 2);
-        tell(x, 3, 3, 3);
+        Samples.tell(x, 3, 3, 3);
         due("13 just fits", x.misfit(), NONE);
         x.setting(0, 15);
         due("13 less room", x.misfit(), 0);
         x.size(1, 5);
         due("13 smaller", x.misfit(), NONE);
         x.setting(0, 0);
-        tell(x, 0, 0, 0);
+        Samples.tell(x, 0, 0, 0);
         due("13 nothing fits in nothing", x.misfit(), NONE);
     }
 
@@ -367,16 +352,16 @@ public final class PromisesTest {
         for (int bad : new int[] {-1, 2, LOW, HIGH}) due("14 kind " + bad, x.cost(bad), OUTSIDE);
         due("14 all slow", x.cost(0), 240);
         due("14 all slow at worst", x.cost(1), 300);
-        tell(x, 1, 0);
+        Samples.tell(x, 1, 0);
         // 6 + 180 work, 8 fetched, 8 returned.
         due("14 one", x.cost(0), 202);
         due("14 one at worst", x.cost(1), 208);
-        tell(x, 0, 1);
+        Samples.tell(x, 0, 1);
         // 60 + 3 + 150 work, 8 fetched; not written in that STAY.
         due("14 not written", x.cost(0), 221);
-        tell(x, 1, 1);
+        Samples.tell(x, 1, 1);
         due("14 one stay", x.cost(0), 175);
-        tell(x, 3, 3);
+        Samples.tell(x, 3, 3);
         due("14 both", x.cost(0), 52);
         x.setting(0, 0);
         due("14 a plan that does not fit", x.cost(0), 52);
@@ -389,11 +374,11 @@ public final class PromisesTest {
         due("15 none fetched", none.carried(0), 0);
         due("15 none returned", none.carried(1), 0);
         due("15 no thing", none.carried(10), OUTSIDE);
-        FastShelf x = make(5, 1, 1);
+        FastShelf x = Samples.make(5, 1, 1);
         x.uses(0, 0, 0, 1);
         x.uses(0, 3, 9, 0);
         x.uses(1, 2, 0, 1);
-        tell(x, 1, 1, 2, 3, 2);
+        Samples.tell(x, 1, 1, 2, 3, 2);
         // THING 0: PARTS 0, 1 (written), PART 3 (read); THING 1: PARTS 2 to 4 (written).
         int[][] due = {{0, 3}, {1, 2}, {10, 2}, {11, 1}, {20, 1}, {21, 1}, {12, OUTSIDE}, {22, OUTSIDE}, {2, OUTSIDE},
             {9, OUTSIDE}, {30, OUTSIDE}, {-1, OUTSIDE}, {LOW, OUTSIDE}, {HIGH, OUTSIDE}};
@@ -403,7 +388,7 @@ public final class PromisesTest {
         due("15 written while out", x.carried(20), 0);
         x.uses(0, 1, 0, 1);
         due("15 written in the last part of a stay", x.carried(20), 1);
-        tell(x, 1, 1, 1, 1, 1);
+        Samples.tell(x, 1, 1, 1, 1, 1);
         due("15 one stay", x.carried(10), 1);
         due("15 returned once", x.carried(20), 1);
         due("15 sum", x.carried(1), 1);
@@ -448,7 +433,7 @@ public final class PromisesTest {
             due("17 kind " + bad, x.bestSet(0, 0, bad), OUTSIDE);
         }
         // By the mean 4*9 = 36 saved is less than 40 carried, at worst 8*9 = 72 is more.
-        FastShelf kinds = make(1, 20);
+        FastShelf kinds = Samples.make(1, 20);
         kinds.runs(0, 4, 8);
         kinds.uses(0, 0, 1, 0);
         kinds.setting(0, 20);
@@ -464,7 +449,7 @@ public final class PromisesTest {
 
     /** What is used first and last is kept in between, as being fetched again would cost more; no other is fetched. */
     private static void bestIsEachSet(int set, int writes) {
-        FastShelf x = make(4, 1, 2, 3, 4, 5);
+        FastShelf x = Samples.make(4, 1, 2, 3, 4, 5);
         for (int t = 0; t < 5; t++) {
             int reads = (set >> t & 1) * 9;
             x.uses(t, 1, reads, reads == 0 ? 0 : writes);
@@ -484,7 +469,7 @@ public final class PromisesTest {
         due("18 at worst, less", x.room(1, 84), 10);
         for (int bad : new int[] {-1, 10000000, LOW, HIGH}) due("18 v " + bad, x.room(0, bad), OUTSIDE);
         for (int bad : new int[] {-1, 2, LOW, HIGH}) due("18 kind " + bad, x.room(bad, 0), OUTSIDE);
-        FastShelf wide = make(1, 20, 20, 20, 20);
+        FastShelf wide = Samples.make(1, 20, 20, 20, 20);
         for (int t = 0; t < 4; t++) wide.uses(t, 0, 9, 0);
         wide.setting(3, 0);
         // No more than three of them fit in 60 cells: 3*9 + 90.
@@ -503,11 +488,11 @@ public final class PromisesTest {
         due("19 at worst", x.drop(1, 2), 10);
         for (int bad : new int[] {-1, 60, LOW, HIGH}) due("19 k " + bad, x.drop(0, bad), OUTSIDE);
         for (int bad : new int[] {-1, 2, LOW, HIGH}) due("19 kind " + bad, x.drop(bad, 0), OUTSIDE);
-        FastShelf wide = make(1, 20, 20, 20, 20);
+        FastShelf wide = Samples.make(1, 20, 20, 20, 20);
         for (int t = 0; t < 4; t++) wide.uses(t, 0, 9, 0);
         due("19 wide", wide.drop(0, 2), 60);
         due("19 beyond the shelf", wide.drop(0, 3), NONE);
-        FastShelf all = make(1, 1, 2, 4, 8, 16);
+        FastShelf all = Samples.make(1, 1, 2, 4, 8, 16);
         for (int t = 0; t < 5; t++) all.uses(t, 0, 9, 0);
         all.setting(3, 0);
         // Each counts the same, so only the five ways to take one more drop it: 1, 3, 7, 15, 31.
@@ -516,9 +501,9 @@ public final class PromisesTest {
     }
 
     private static void place() {
-        FastShelf x = make(3, 4, 6, 3);
+        FastShelf x = Samples.make(3, 4, 6, 3);
         x.setting(0, 10);
-        tell(x, 3, 2, 6);
+        Samples.tell(x, 3, 2, 6);
         int[][] due = {
             // t, p, order, place: the least free place, kept while the STAY lasts
             {0, 0, 0, 0}, {1, 0, 0, 4}, {2, 0, 0, NONE}, {0, 1, 0, NONE}, {1, 1, 0, 4}, {1, 2, 0, 4}, {2, 2, 0, 0},
@@ -539,21 +524,21 @@ public final class PromisesTest {
         x.setting(0, 9);
         due("20 stuck at that part", x.place(0, 0, 0), NONE);
         due("20 stuck ahead of it", x.place(1, 1, 0), NONE);
-        tell(x, 1, 3, 2);
+        Samples.tell(x, 1, 3, 2);
         due("20 ahead of where it is stuck", x.place(0, 0, 0), 0);
         due("20 there already, but stuck", x.place(0, 1, 0), NONE);
         comesAgain();
     }
 
     private static void comesAgain() {
-        FastShelf x = make(3, 4, 6);
-        tell(x, 3, 2, 3);
+        FastShelf x = Samples.make(3, 4, 6);
+        Samples.tell(x, 3, 2, 3);
         due("20 comes again to the same place", x.place(0, 2, 0), 0);
-        tell(x, 3, 1, 3);
+        Samples.tell(x, 3, 1, 3);
         x.setting(0, 60);
         due("20 stays", x.place(0, 2, 1), 6);
         due("20 comes again ahead of it", x.place(1, 2, 1), 0);
-        tell(x, 1, 2, 3);
+        Samples.tell(x, 1, 2, 3);
         // THING 0 goes as THING 1 comes: its cells are free again.
         due("20 the gone make way", x.place(1, 1, 0), 0);
         due("20 behind it", x.place(0, 2, 0), 6);
@@ -563,8 +548,8 @@ public final class PromisesTest {
         FastShelf none = new FastShelf();
         due("21 nothing", none.stuck(0), NONE);
         due("21 one order without things", none.stuck(1), OUTSIDE);
-        FastShelf x = make(3, 4, 6, 5);
-        tell(x, 3, 2, 6);
+        FastShelf x = Samples.make(3, 4, 6, 5);
+        Samples.tell(x, 3, 2, 6);
         x.setting(0, 12);
         // By 0 1 2 THING 1 lies in 4 .. 9: neither 0 .. 3 nor 10 .. 11 is enough for THING 2.
         due("21 fits, but stuck", x.stuck(0), 2);
@@ -577,7 +562,7 @@ public final class PromisesTest {
         x.setting(0, 9);
         due("21 at the first", x.stuck(2), 0);
         for (int bad : new int[] {6, -1, LOW, HIGH}) due("21 order " + bad, x.stuck(bad), OUTSIDE);
-        FastShelf all = make(1, 12, 12, 12, 12, 12);
+        FastShelf all = Samples.make(1, 12, 12, 12, 12, 12);
         all.plan(0, 31);
         all.setting(0, 60);
         due("21 all of the shelf", all.stuck(119), NONE);
@@ -588,8 +573,8 @@ public final class PromisesTest {
 
     private static void order() {
         due("22 nothing", new FastShelf().order(), 0);
-        FastShelf x = make(3, 4, 6, 5);
-        tell(x, 3, 2, 6);
+        FastShelf x = Samples.make(3, 4, 6, 5);
+        Samples.tell(x, 3, 2, 6);
         x.setting(0, 20);
         due("22 first", x.order(), 0);
         x.setting(0, 12);
@@ -602,15 +587,15 @@ public final class PromisesTest {
         FastShelf none = new FastShelf();
         due("23 nothing", none.reach(0), 0);
         due("23 no order", none.reach(1), OUTSIDE);
-        FastShelf x = make(3, 4, 6, 5);
+        FastShelf x = Samples.make(3, 4, 6, 5);
         x.setting(0, 20);
         due("23 nothing in", x.reach(0), 0);
-        tell(x, 3, 2, 6);
+        Samples.tell(x, 3, 2, 6);
         due("23 behind it", x.reach(0), 15);
         due("23 beside it", x.reach(2), 11);
-        tell(x, 6, 1, 0);
+        Samples.tell(x, 6, 1, 0);
         due("23 the most is ahead", x.reach(0), 11);
-        tell(x, 3, 2, 6);
+        Samples.tell(x, 3, 2, 6);
         x.setting(0, 12);
         due("23 stuck", x.reach(0), NONE);
         due("23 another order", x.reach(2), 11);
@@ -619,7 +604,7 @@ public final class PromisesTest {
 
     private static void ofTime() {
         FastShelf x = pair();
-        tell(x, 1, 2);
+        Samples.tell(x, 1, 2);
         int[][] due = {
             // p, kind, what: WORK 2*3*1, LOAD 2*4, STALL all of it
             {0, 0, 0, 6}, {0, 0, 1, 8}, {0, 0, 2, 8}, {0, 1, 0, 12}, {0, 1, 1, 8}, {0, 1, 2, 8},
@@ -633,7 +618,7 @@ public final class PromisesTest {
         due("24 unknown ahead of outside", x.ofTime(2, 2, 3), UNKNOWN);
         for (int bad : new int[] {-1, 2, LOW, HIGH}) due("24 kind " + bad, x.ofTime(0, bad, 0), OUTSIDE);
         for (int bad : new int[] {-1, 3, LOW, HIGH}) due("24 what " + bad, x.ofTime(0, 0, bad), OUTSIDE);
-        tell(x, 0, 2);
+        Samples.tell(x, 0, 2);
         due("24 hidden", x.ofTime(1, 0, 2), 0);
     }
 
@@ -642,10 +627,10 @@ public final class PromisesTest {
         FastShelf x = pair();
         for (int bad : new int[] {-1, 2, LOW, HIGH}) due("25 kind " + bad, x.time(bad), OUTSIDE);
         due("25 all slow", x.time(0), 240);
-        tell(x, 1, 2);
+        Samples.tell(x, 1, 2);
         due("25 mean", x.time(0), 6 + 8 + 45 + 14);
         due("25 worst", x.time(1), 12 + 8 + 45 + 8);
-        tell(x, 1, 1);
+        Samples.tell(x, 1, 1);
         // What is RETURNED behind the last PART is never hidden.
         due("25 returned behind the last", x.time(0), 6 + 8 + 153 + 0 + 8);
         x.cut();
@@ -665,7 +650,7 @@ public final class PromisesTest {
         }
         for (int p = 0; p < 4; p++) x.part(1, 1);
         due("26 parts", x.many(0), 4);
-        tell(x, 1, 3, 2, 1);
+        Samples.tell(x, 1, 3, 2, 1);
         due("26 stays", x.many(2), 3);
         x.cut();
         due("26 stays behind a cut", x.many(2), 2);
