@@ -1,3 +1,5 @@
+import java.util.Arrays;
+
 /** The calls of the face by number, so that tests can make them out of tables. */
 final class Calls {
     static final int PART = 0, RUNS = 1, CUT = 2, THING = 3, USES = 4, SIZE = 5, SETTING = 6, OF_PART = 7, PLAN = 8,
@@ -14,6 +16,11 @@ final class Calls {
     /** How many numbers a call is given. */
     static int width(int which) {
         return HOW_MANY[which];
+    }
+
+    /** The number of a call, or -1 if none has that name. */
+    static int number(String name) {
+        return Arrays.asList(NAMES).indexOf(name);
     }
 
     static String text(int which, int... given) {

@@ -5,25 +5,29 @@ import java.lang.reflect.Method;
 import java.lang.reflect.Modifier;
 import java.nio.file.Files;
 import java.nio.file.Path;
+import java.util.ArrayList;
+import java.util.List;
+import java.util.Map;
 import java.util.Set;
+import java.util.TreeMap;
 import java.util.TreeSet;
 import java.util.regex.Matcher;
 import java.util.regex.Pattern;
 
 /** The face of the document, and those rules of LANGUAGE.md that can be seen from the class and its text. */
 public final class LanguageTest {
-    private static final String FACE = "part/2 runs/3 cut/0 thing/1 uses/4 size/2 setting/2 ofPart/2 plan/2 take/2 "
-        + "planned/1 misfit/0 cost/1 carried/1 best/3 bestSet/3 room/2 drop/2 place/3 stuck/1 order/0 reach/1 ofTime/3 "
-        + "time/1 many/1";
     private static final String[] FORBIDDEN = {"\\bthrow\\b", "\\bthrows\\b", "\\btry\\b", "\\bcatch\\b", "\\bassert\\b",
         "\\bsynchronized\\b", "->", "::", "Exact\\b", "\\bpackage\\b", "\\bSystem\\.(?!arraycopy)", "\\bRandom\\b",
         "\\bThread\\b", "\\bstatic\\s*\\{", "\\bObject\\b", "\\.(equals|hashCode|toString)\\(", "[^\\x00-\\x7f]"};
     private static int wrong = 0;
 
-    public static void main(String[] args) throws IOException {
+    public static void main(String[] args) throws ReflectiveOperationException, IOException {
+        String whole = Files.readString(Path.of("src/main/java/FastShelf.java"));
         face();
+        constants();
+        interfaceSays(whole);
         nested();
-        text(Files.readString(Path.of("src/main/java/FastShelf.java")));
+        text(whole);
         System.out.println(wrong == 0 ? "the rules are kept" : wrong + " rules are broken");
         if (wrong != 0) System.exit(1);
     }
@@ -37,25 +41,39 @@ public final class LanguageTest {
     private static void face() {
         int mods = FastShelf.class.getModifiers();
         rule("public and final", Modifier.isPublic(mods) && Modifier.isFinal(mods));
-        Set<String> want = new TreeSet<>(Set.of(FACE.split(" ")));
         Set<String> got = new TreeSet<>();
         for (Method m : FastShelf.class.getDeclaredMethods()) {
             if (Modifier.isPrivate(m.getModifiers())) continue;
-            got.add(m.getName() + "/" + m.getParameterCount());
+            got.add(m.getName());
             rule("public, not static, int: " + m, Modifier.isPublic(m.getModifiers())
                 && !Modifier.isStatic(m.getModifiers()) && m.getReturnType() == int.class);
             for (Class<?> type : m.getParameterTypes()) rule("int: " + m, type == int.class);
         }
-        rule("methods: " + got, got.equals(want));
+        rule("methods: " + got, got.equals(new TreeSet<>(Face.names())));
         Constructor<?>[] made = FastShelf.class.getDeclaredConstructors();
         rule("one constructor", made.length == 1 && Modifier.isPublic(made[0].getModifiers())
             && made[0].getParameterCount() == 0);
-        Set<String> constants = new TreeSet<>();
+    }
+
+    private static void constants() throws ReflectiveOperationException {
+        Map<String, Integer> got = new TreeMap<>();
         for (Field f : FastShelf.class.getDeclaredFields()) {
-            if (!Modifier.isPrivate(f.getModifiers())) constants.add(f.getName());
-            if (Modifier.isStatic(f.getModifiers())) rule("final: " + f, Modifier.isFinal(f.getModifiers()));
+            int mods = f.getModifiers();
+            if (Modifier.isStatic(mods)) rule("final: " + f, Modifier.isFinal(mods));
+            if (Modifier.isPrivate(mods)) continue;
+            boolean constant = Modifier.isPublic(mods) && Modifier.isStatic(mods) && f.getType() == int.class;
+            rule("a public constant: " + f, constant);
+            if (constant) got.put(f.getName(), f.getInt(null));
         }
-        rule("constants: " + constants, constants.equals(Set.of("UNKNOWN", "OUTSIDE", "STATE", "FULL", "NONE")));
+        rule("constants: " + got, got.equals(Face.CONSTANTS));
+    }
+
+    /** The calls stand in the document's order, with what is given to them, under its headings. */
+    private static void interfaceSays(String whole) {
+        Matcher m = Pattern.compile("(?m)^ {4}(// ---- .*$|public int \\w+\\([^)]*\\))").matcher(whole);
+        List<String> got = new ArrayList<>();
+        while (m.find()) got.add(m.group(1));
+        rule("the interface says " + got + ", due is " + Face.lines(), got.equals(Face.lines()));
     }
 
     private static void nested() {
@@ -73,7 +91,7 @@ public final class LanguageTest {
     }
 
     private static void checkMethod(Method m) {
-        rule("no public method's name: " + m, !(" " + FACE).contains(" " + m.getName() + "/"));
+        rule("no public method's name: " + m, !Face.names().contains(m.getName()));
         rule("at most seven parameters: " + m, m.getParameterCount() <= 7);
     }
 
