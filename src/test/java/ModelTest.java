@@ -11,6 +11,7 @@ public final class ModelTest {
     private final StringBuilder told = new StringBuilder();
     private final int mostParts;
     private final int mostThings;
+    private int calls = 0;
     private boolean failed = false;
 
     private ModelTest(long seed, int mostParts, int mostThings) {
@@ -31,13 +32,12 @@ public final class ModelTest {
     }
 
     private void run() {
-        int calls = 0;
         int parts = 1 + random.nextInt(mostParts);
         int things = 1 + random.nextInt(mostThings);
-        for (int p = 0; p < parts; p++, calls++) check(0, 1 + random.nextInt(9), 10 + random.nextInt(40), 0, 0);
+        for (int p = 0; p < parts; p++) check(0, 1 + random.nextInt(9), 10 + random.nextInt(40), 0, 0);
         int size = random.nextBoolean() ? 20 : 6;
-        for (int t = 0; t < things; t++, calls++) check(3, 1 + random.nextInt(size), 0, 0, 0);
-        for (; calls < CALLS && !failed; calls++) step();
+        for (int t = 0; t < things; t++) check(3, 1 + random.nextInt(size), 0, 0, 0);
+        while (calls < CALLS && !failed) step();
     }
 
     private void step() {
@@ -106,6 +106,7 @@ public final class ModelTest {
 
     private void check(int which, int a, int b, int c, int d) {
         if (failed) return;
+        calls++;
         int got = Calls.ask(shelf, which, a, b, c, d);
         int want = model.call(which, a, b, c, d);
         told.append(Calls.text(which, a, b, c, d)).append(" = ").append(got).append('\n');
